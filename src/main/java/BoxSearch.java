@@ -171,7 +171,7 @@ public final class BoxSearch {
         switch (what) {
             case 0: return place.digits();
             case 1: return has();
-            case 2: return told.spentAt(place.packed(told));
+            case 2: return told.spentOn(told.openOnes(place.packed(told)));
             case 3: return place.acts;
             default: return NO_SUCH;
         }
@@ -737,7 +737,7 @@ public final class BoxSearch {
 
         void reprice(int box, int n) {
             boxes[box] = boxes[box].priced(n);
-            setNumbers(box);
+            settle();
         }
 
         /** Finds anew what follows from the BOXES. */
@@ -758,7 +758,10 @@ public final class BoxSearch {
                 for (int i = 0; i < boxes[b].steps(); i++) {
                     stepRanks[b * MOST_STEPS + i] = rankOfWorth(boxes[b].worths[i]);
                 }
-                setNumbers(b);
+                setNumber(b, false);
+                if (kinOf[b] >= 0) {
+                    setNumber(b, true);
+                }
             }
         }
 
@@ -798,6 +801,11 @@ public final class BoxSearch {
         /** How many packed places there are, those that can't be among them. */
         int codes() {
             return 1 << 2 * size;
+        }
+
+        /** Where a packed place with a RANK stands in a table of all. */
+        int index(int code, int rank) {
+            return (rank << 2 * size) + code;
         }
 
         static int digit(int code, int b) {
@@ -853,10 +861,10 @@ public final class BoxSearch {
             return seen == 0 ? 1 : seen;
         }
 
-        int spentAt(int code) {
+        int spentOn(int openOnes) {
             int spent = 0;
             for (int b = 0; b < size; b++) {
-                if (isOpen(code, b)) {
+                if ((openOnes & 1 << b) != 0) {
                     spent += boxes[b].hours;
                 }
             }
@@ -864,11 +872,13 @@ public final class BoxSearch {
         }
 
         boolean mayOpen(int code, int b) {
-            if (isOpen(code, b)) {
-                return false;
-            }
-            int spent = spentAt(code);
-            return spent + boxes[b].hours <= latestHour && boxes[b].opensAmid(openOnes(code), spent);
+            int open = openOnes(code);
+            return mayOpenAmid(open, spentOn(open), b);
+        }
+
+        boolean mayOpenAmid(int openOnes, int spent, int b) {
+            return (openOnes & 1 << b) == 0 && spent + boxes[b].hours <= latestHour
+                && boxes[b].opensAmid(openOnes, spent);
         }
 
         /** Whether the OTHER CHANCES of a BOX hold. */
@@ -918,13 +928,6 @@ public final class BoxSearch {
         /** Where the NUMBER of a BOX stands. */
         int numberAt(int code, int b) {
             return isToldOf(code, b) ? 2 * b + 1 : 2 * b;
-        }
-
-        private void setNumbers(int b) {
-            setNumber(b, false);
-            if (kinOf[b] >= 0) {
-                setNumber(b, true);
-            }
         }
 
         private void setNumber(int b, boolean other) {
@@ -1314,7 +1317,12 @@ public final class BoxSearch {
         private int here;
         private long hereMass;
         private final boolean[] hereMay = new boolean[MOST_BOXES];
+        /** By BOX and STEP: the CHANCE, and the place behind it. */
         private final int[] hereChances = new int[MOST_BOXES * MOST_STEPS];
+        private final int[] hereNext = new int[MOST_BOXES * MOST_STEPS];
+        /** The best SHUT BLIND, if there is one that is worth more than nothing. */
+        private int hereBlind;
+        private long hereBlindMean;
 
         /** What is LIKELY, since follow. */
         final long[] opened = new long[MOST_BOXES];
@@ -1327,10 +1335,6 @@ public final class BoxSearch {
         /** To be called when BOXES, PRICES or the BELL have changed. */
         void forget() {
             known = false;
-        }
-
-        private int index(int code, int rank) {
-            return (rank << 2 * told.size) + code;
         }
 
         private void know() {
@@ -1351,8 +1355,10 @@ public final class BoxSearch {
 
         /** Only the places where the BOX isn't OPEN, as its PRICE counts for none of the others. */
         private void tryCost(int box, int cost) {
-            costs[box] = cost;
-            fill(box);
+            if (costs[box] != cost) {
+                costs[box] = cost;
+                fill(box);
+            }
         }
 
         /** From the places with the most acts done down, so that all that may follow is there already. */
@@ -1374,10 +1380,19 @@ public final class BoxSearch {
         private void look(int code) {
             here = code;
             hereMass = told.massAt(code);
+            hereBlind = NONE;
+            hereBlindMean = 0;
+            int open = told.openOnes(code);
+            int spent = told.spentOn(open);
             for (int b = 0; b < told.size; b++) {
-                hereMay[b] = told.mayOpen(code, b);
+                hereMay[b] = told.mayOpenAmid(open, spent, b);
                 for (int i = 0; i < told.boxes[b].steps(); i++) {
                     hereChances[b * MOST_STEPS + i] = told.chanceAt(code, b, i);
+                    hereNext[b * MOST_STEPS + i] = told.afterOpening(code, b, i);
+                }
+                if (told.boxes[b].canTakeShut() && isShutHere(b) && shutMean(b) > hereBlindMean) {
+                    hereBlind = b;
+                    hereBlindMean = shutMean(b);
                 }
             }
         }
@@ -1386,11 +1401,9 @@ public final class BoxSearch {
         private void weigh(int rank) {
             long most = stopMean(rank);
             int act = STOPS;
-            for (int b = 0; b < told.size; b++) {
-                if (told.boxes[b].canTakeShut() && isShutHere(b) && shutMean(b) > most) {
-                    most = shutMean(b);
-                    act = TAKES + b;
-                }
+            if (hereBlindMean > most) {
+                most = hereBlindMean;
+                act = TAKES + hereBlind;
             }
             for (int b = 0; b < told.size; b++) {
                 long mean = hereMay[b] ? openMean(b, rank) : most;
@@ -1407,8 +1420,8 @@ public final class BoxSearch {
                     act = PEEPS + b;
                 }
             }
-            means[index(here, rank)] = most;
-            acts[index(here, rank)] = act;
+            means[told.index(here, rank)] = most;
+            acts[told.index(here, rank)] = act;
         }
 
         private boolean isShutHere(int b) {
@@ -1430,30 +1443,28 @@ public final class BoxSearch {
 
         private long openMean(int b, int rank) {
             long mean = -costs[b] * hereMass;
-            for (int i = 0; i < told.boxes[b].steps(); i++) {
-                int then = Math.max(rank, told.stepRank(b, i));
-                int chance = hereChances[b * MOST_STEPS + i];
-                if (chance > 0) {
-                    mean += chance * means[index(told.afterOpening(here, b, i), then)];
-                }
+            int end = b * MOST_STEPS + told.boxes[b].steps();
+            for (int k = b * MOST_STEPS; k < end; k++) {
+                int then = told.stepRanks[k] > rank ? told.stepRanks[k] : rank;
+                mean += hereChances[k] * means[told.index(hereNext[k], then)];
             }
             return mean;
         }
 
         private long peepMean(int b, int rank) {
-            return means[index(told.afterPeeping(here, b, true), rank)]
-                + means[index(told.afterPeeping(here, b, false), rank)]
+            return means[told.index(told.afterPeeping(here, b, true), rank)]
+                + means[told.index(told.afterPeeping(here, b, false), rank)]
                 - told.boxes[b].extra() * hereMass;
         }
 
         int actAt(int code, int rank) {
             know();
-            return acts[index(code, rank)];
+            return acts[told.index(code, rank)];
         }
 
         long meanAt(int code, int rank) {
             know();
-            return means[index(code, rank)];
+            return means[told.index(code, rank)];
         }
 
         // ---- the rule
@@ -1505,7 +1516,7 @@ public final class BoxSearch {
             int box = ruleAt(code, rank);
             look(code);
             long mean = box < 0 ? stopMean(rank) : openMean(box, rank);
-            if (mean < means[index(code, rank)]) {
+            if (mean < means[told.index(code, rank)]) {
                 return digits;
             }
             if (box < 0 || depth >= MOST_BOXES) {
@@ -1541,7 +1552,7 @@ public final class BoxSearch {
 
         /** The share: by how much THE MASS there is to be multiplied. */
         private void followOn(int code, int rank, int holder, long share, int depth) {
-            int act = acts[index(code, rank)];
+            int act = acts[told.index(code, rank)];
             long part = share * told.massAt(code);
             if (part == 0 || depth > MOST_ACTS) {
                 return;
@@ -1582,11 +1593,11 @@ public final class BoxSearch {
         int edgeAt(int code, int rank, int box) {
             know();
             int low = 0;
-            int high = told.mayOpen(code, box) ? MOST_PRICE + 1 : 0;
+            int high = told.mayOpen(code, box) ? priceOfStopping(code, rank, box) : 0;
             while (low < high) {
                 int middle = (low + high) / 2;
                 tryCost(box, middle);
-                if (acts[index(code, rank)] == OPENS + box) {
+                if (acts[told.index(code, rank)] == OPENS + box) {
                     low = middle + 1;
                 } else {
                     high = middle;
@@ -1596,12 +1607,23 @@ public final class BoxSearch {
             return low;
         }
 
-        /** The SET PRICE. */
+        /** The least PRICE at which opening the BOX is no better than stopping, as far as there are PRICES. */
+        private int priceOfStopping(int code, int rank, int box) {
+            look(code);
+            long above = openMean(box, rank) + costs[box] * hereMass - Math.max(stopMean(rank), hereBlindMean);
+            if (above <= 0 || hereMass <= 0) {
+                return 0;
+            }
+            return (int) Math.min(MOST_PRICE + 1, (above + hereMass - 1) / hereMass);
+        }
+
+        /** The SET PRICE. What isn't LIKELY to be opened for a PRICE isn't for a greater one. */
         int dearest(int box) {
             know();
             int price = 0;
             long most = 0;
-            for (int cost = 100; cost <= 900; cost += 100) {
+            opened[box] = 1;
+            for (int cost = 100; cost <= 900 && opened[box] > 0; cost += 100) {
                 tryCost(box, cost);
                 followAnew(0, 0, NONE);
                 long product = cost * opened[box];
@@ -1623,7 +1645,7 @@ public final class BoxSearch {
             int rank = 0;
             long paid = 0;
             for (int turn = 0; turn <= MOST_ACTS; turn++) {
-                int act = byRule ? ruleActAt(code, rank) : acts[index(code, rank)];
+                int act = byRule ? ruleActAt(code, rank) : acts[told.index(code, rank)];
                 if (act == STOPS) {
                     return told.worths[rank] - paid;
                 }
@@ -1731,10 +1753,6 @@ public final class BoxSearch {
             }
         }
 
-        private int index(int code, int rank) {
-            return (rank << 2 * told.size) + code;
-        }
-
         /** The layer of a street's end, where one stops. */
         private void prepare() {
             layer = MOST_RANKS * told.codes();
@@ -1755,33 +1773,37 @@ public final class BoxSearch {
         private void stopAt(int code) {
             long mass = told.massAt(code);
             for (int rank = 0; rank < told.ranks; rank++) {
-                means[index(code, rank)] = told.worths[rank] * mass;
+                means[told.index(code, rank)] = told.worths[rank] * mass;
             }
         }
 
         private void putAhead(int b, int depth, int waiting) {
-            int from = depth * layer;
             for (int c = 0; c < codeCount; c++) {
-                int code = codes[c];
-                if ((code & waiting) == 0) {
-                    boolean may = told.mayOpen(code, b);
-                    int seen = told.seenRanks(code);
-                    for (int rank = 0; rank < told.ranks; rank++) {
-                        if ((seen & 1 << rank) != 0) {
-                            int index = from + index(code, rank);
-                            long pass = means[index];
-                            means[index + layer] = may ? Math.max(pass, openMean(b, from, code, rank)) : pass;
-                        }
-                    }
+                if ((codes[c] & waiting) == 0) {
+                    meet(b, depth * layer, codes[c]);
                 }
             }
         }
 
-        private long openMean(int b, int from, int code, int rank) {
-            long mean = -told.boxes[b].cost * told.massAt(code);
+        /** Fills the next layer for one place: the BOX is passed by, or opened if it may be and that is better. */
+        private void meet(int b, int from, int code) {
+            boolean may = told.mayOpen(code, b);
+            long paid = told.boxes[b].cost * told.massAt(code);
+            int seen = told.seenRanks(code);
+            for (int rank = 0; rank < told.ranks; rank++) {
+                if ((seen & 1 << rank) != 0) {
+                    int index = from + told.index(code, rank);
+                    long pass = means[index];
+                    means[index + layer] = may ? Math.max(pass, shownMean(b, from, code, rank) - paid) : pass;
+                }
+            }
+        }
+
+        private long shownMean(int b, int from, int code, int rank) {
+            long mean = 0;
             for (int i = 0; i < told.boxes[b].steps(); i++) {
                 int then = Math.max(rank, told.stepRank(b, i));
-                mean += told.chanceAt(code, b, i) * means[from + index(told.afterOpening(code, b, i), then)];
+                mean += told.chanceAt(code, b, i) * means[from + told.index(told.afterOpening(code, b, i), then)];
             }
             return mean;
         }
