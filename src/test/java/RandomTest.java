@@ -3,6 +3,16 @@ import java.util.Random;
 /** Random searches, with every answer compared with the oracle's. */
 public final class RandomTest {
     private static final Check CHECK = new Check("RandomTest");
+    /** As many boxes, steps and worths as there can be. */
+    private static final String[][] FULL = {
+        {"b31 1 990/20 500/25 300/25 10/30;", "b43 1 991/25 501/25 301/25 11/25;", "b37 2 992/22 502/25 302/25 12/28;",
+            "b41 1 993/20 503/25 303/25 13/30;", "b39 3 994/25 504/25 304/25 14/25?5;"},
+        {"b31 1 990/20 500/25 300/25 10/30;", "b43 1 91/25 51/25 31/25 11/25>0 90 0 5 5;",
+            "b7 2 92/22 52/25 32/25 12/28>1 10 20 30 40;", "b4 1 93/20 53/25 33/25 13/30!;",
+            "b3 3 94/25 54/25 34/25 14/25>3 20 20 30 30;"},
+        {"b61 1 999/20 500/25 300/25 10/30@3;", "b43 2 991/25 501/25 301/25 11/25<0;",
+            "b37 2 992/22 502/25 302/25 12/28?4;", "b41 1 993/20 503/25 303/25 13/30!;", "l6;",
+            "b39 3 994/25 504/25 304/25 14/25@2;"}};
     private final Random random;
     private final BoxSearch x = new BoxSearch();
     private final Oracle oracle = new Oracle();
@@ -17,6 +27,9 @@ public final class RandomTest {
         int rounds = args.length > 1 ? Integer.parseInt(args[1]) : 400;
         for (int round = 0; round < rounds; round++) {
             new RandomTest(round).play(1 + round % 5);
+        }
+        for (String[] texts : FULL) {
+            new RandomTest(rounds).playFull(texts);
         }
         CHECK.end();
     }
@@ -103,6 +116,22 @@ public final class RandomTest {
         tellOfRuns();
         tellOfPrices();
         tellOfPlans();
+    }
+
+    private void playFull(String[] texts) {
+        for (String s : texts) {
+            told += s;
+            due("text", Check.tell(x, s), oracle.read(s));
+        }
+        spot = oracle.first();
+        tellOfBoxes();
+        tellOfPlans();
+        wander();
+        tellOfPlans();
+        tellOfStreets();
+        tellOfRuns();
+        due("edge 0", x.edge(0) < 0 || !oracle.beginsAt(spot, 0, x.edge(0)) ? 1 : 0, 1);
+        due("setPrice", x.setPrice(2), oracle.setPrice(2));
     }
 
     /** What was planned ahead of a change must not be told behind it. */

@@ -224,6 +224,12 @@ public final class ShelfTest {
         due("copy of another sort, too far", x.copy(0, 0, 2, 0, 9), -12);
         due("copy from a box", x.copy(3, 0, 0, 0, 1), -12);
         due("copy to a box", x.copy(0, 0, 3, 0, 1), -12);
+        x.row(5, 1, 4);
+        x.keep(5, 1, 0);
+        due("copy from a box where a row of that sort was", x.copy(5, 0, 0, 0, 1), -12);
+        due("copy to a box where a row of that sort was", x.copy(0, 0, 5, 0, 1), -12);
+        x.keep(5, 0, 0);
+        due("copy to nothing where a row of that sort was", x.copy(0, 0, 5, 0, 1), -11);
         due("copy from nothing", x.copy(4, 0, 0, 0, 1), -11);
         due("copy to nothing", x.copy(0, 0, 4, 0, 1), -11);
         due("copy from a box to nothing", x.copy(3, 0, 4, 0, 1), -11);

@@ -72,11 +72,16 @@ public final class StreetTest {
         // All orders are as good: the first by numbers.
         BoxSearch same = Check.with("b9 1 9/100;b9 1 9/100;b9 1 9/100;b9 1 9/100;b9 1 9/100;");
         due("of five that are alike", same.bestStreet(), 1 * 8 + 2 * 64 + 3 * 512 + 4 * 4096);
-        // 1 first, as 0 opens behind none but 2's worth hangs on it.
+        // Where nothing stands between them, the greatest number first.
         BoxSearch x = Check.with("b1 1 10/100;b1 1 99/50 0/50;b1 1 60/50 0/50;");
         due("by numbers 97, 58, 9", x.bestStreet(), 1 + 2 * 8 + 0 * 64);
         x.open(0, 0);
         due("wherever one is", x.bestStreet(), 1 + 2 * 8);
+        // 2 must tell of 0 ahead of it, 1 is worth nothing: 1 2 0 and 2 0 1 and 2 1 0 are as good.
+        BoxSearch k = Check.with("b20 1 100/50 0/50;b9 1 1/100;b0 0 1/50 0/50>0 100 0;");
+        due("2 0 1 is as good as 1 2 0", Check.street(k, 2, 0, 1), Check.street(k, 1, 2, 0));
+        due("0 2 1 is not", Check.street(k, 0, 2, 1) < Check.street(k, 1, 2, 0) ? 1 : 0, 1);
+        due("of several the first by numbers", k.bestStreet(), 1 + 2 * 8 + 0 * 64);
         // Rivals first.
         BoxSearch y = Check.with("b1 3 60/50 0/50;b1 2 50/50 0/50@1;");
         due("the rival ahead", y.bestStreet(), 1);
