@@ -884,7 +884,7 @@ public final class BoxSearch {
         /** Whether the OTHER CHANCES of a BOX hold. */
         private boolean isToldOf(int code, int b) {
             int kin = kinOf[b];
-            return kin >= 0 && digit(code, kin) == TELLS;
+            return kin >= 0 && (code >> 2 * kin & 3) == TELLS;
         }
 
         /** Of a BOX that isn't OPEN. */
@@ -1639,7 +1639,9 @@ public final class BoxSearch {
         // ---- runs
 
         long runFrom(boolean byRule, int seed) {
-            know();
+            if (!byRule) {
+                know();
+            }
             int z = seed;
             int code = 0;
             int rank = 0;
@@ -1697,9 +1699,10 @@ public final class BoxSearch {
         private static final int MOST_CODES = 162;
 
         private final Told told;
-        /** The places without PEEPED ones. */
+        /** The places without PEEPED ones; and where each of them stands there, so that layers stay small. */
         private final int[] codes = new int[MOST_CODES];
         private int codeCount;
+        private int[] spots = new int[0];
         private long[] means = new long[0];
         private int layer;
         private long most;
@@ -1753,27 +1756,41 @@ public final class BoxSearch {
             }
         }
 
-        /** The layer of a street's end, where one stops. */
+        private int spot(int code, int rank) {
+            return rank * codeCount + spots[code];
+        }
+
         private void prepare() {
-            layer = MOST_RANKS * told.codes();
+            findCodes();
+            layer = MOST_RANKS * codeCount;
             int need = layer * (told.size + 1);
             if (means.length < need) {
                 means = new long[need];
+            }
+            for (int c = 0; c < codeCount; c++) {
+                stopAt(codes[c]);
+            }
+        }
+
+        private void findCodes() {
+            if (spots.length < told.codes()) {
+                spots = new int[told.codes()];
             }
             codeCount = 0;
             for (int code = 0; code < told.codes() && codeCount < MOST_CODES; code++) {
                 if (told.canBe(code) && !told.hasPeeped(code)) {
                     codes[codeCount] = code;
+                    spots[code] = codeCount;
                     codeCount++;
-                    stopAt(code);
                 }
             }
         }
 
+        /** In the layer of a street's end one stops. */
         private void stopAt(int code) {
             long mass = told.massAt(code);
             for (int rank = 0; rank < told.ranks; rank++) {
-                means[told.index(code, rank)] = told.worths[rank] * mass;
+                means[spot(code, rank)] = told.worths[rank] * mass;
             }
         }
 
@@ -1792,9 +1809,9 @@ public final class BoxSearch {
             int seen = told.seenRanks(code);
             for (int rank = 0; rank < told.ranks; rank++) {
                 if ((seen & 1 << rank) != 0) {
-                    int index = from + told.index(code, rank);
-                    long pass = means[index];
-                    means[index + layer] = may ? Math.max(pass, shownMean(b, from, code, rank) - paid) : pass;
+                    int spot = from + spot(code, rank);
+                    long pass = means[spot];
+                    means[spot + layer] = may ? Math.max(pass, shownMean(b, from, code, rank) - paid) : pass;
                 }
             }
         }
@@ -1803,7 +1820,7 @@ public final class BoxSearch {
             long mean = 0;
             for (int i = 0; i < told.boxes[b].steps(); i++) {
                 int then = Math.max(rank, told.stepRank(b, i));
-                mean += told.chanceAt(code, b, i) * means[from + told.index(told.afterOpening(code, b, i), then)];
+                mean += told.chanceAt(code, b, i) * means[from + spot(told.afterOpening(code, b, i), then)];
             }
             return mean;
         }
