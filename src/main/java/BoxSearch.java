@@ -1594,7 +1594,8 @@ public final class BoxSearch {
             know();
             int low = 0;
             int high = told.mayOpen(code, box) ? priceOfStopping(code, rank, box) : 0;
-            while (low < high) {
+            // Ten halvings are enough for 1001 answers.
+            for (int turn = 0; turn < 11 && low < high; turn++) {
                 int middle = (low + high) / 2;
                 tryCost(box, middle);
                 if (acts[told.index(code, rank)] == OPENS + box) {

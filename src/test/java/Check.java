@@ -1,6 +1,13 @@
+import java.io.IOException;
+import java.nio.file.Files;
+import java.nio.file.Path;
+
 /** What the tests share: counting wrong answers, and handing texts to a search. */
 final class Check {
+    private static final Path DOCUMENT = Path.of("../shared/DOC.md");
     private final String title;
+    private String document = "";
+    private String words = "";
     private int calls;
     private int wrong;
 
@@ -8,12 +15,32 @@ final class Check {
         this.title = title;
     }
 
+    /** The document's words that the next answers are about. */
+    void says(String text) {
+        words = "[" + text + "] ";
+        if (!readDocument().contains(text)) {
+            // No wrong answer: but whoever changes the document should look at this test again.
+            System.out.println(title + ": the document doesn't say " + words);
+        }
+    }
+
+    private String readDocument() {
+        try {
+            if (document.isEmpty() && Files.exists(DOCUMENT)) {
+                document = Files.readString(DOCUMENT);
+            }
+        } catch (IOException e) {
+            System.out.println(title + ": " + DOCUMENT + " can't be read");
+        }
+        return document;
+    }
+
     void due(String call, long got, long want) {
         calls++;
         if (got != want) {
             wrong++;
             if (wrong <= 40) {
-                System.out.println(title + ": " + call + " answered " + got + ", due is " + want);
+                System.out.println(title + ": " + words + call + " answered " + got + ", due is " + want);
             }
         }
     }

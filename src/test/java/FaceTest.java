@@ -56,12 +56,27 @@ public final class FaceTest {
                 Modifier.isPublic(m.getModifiers()) && !Modifier.isStatic(m.getModifiers()));
         }
         CHECK.due("the face " + found, found.equals(want));
+        for (Method m : BoxSearch.class.getMethods()) {
+            if (m.getDeclaringClass() == BoxSearch.class) {
+                CHECK.due(m.getName() + " throws what the document names",
+                    Arrays.toString(m.getExceptionTypes()).equals(thrown(m.getName())));
+            }
+        }
         Constructor<?>[] constructors = BoxSearch.class.getDeclaredConstructors();
         CHECK.due("one constructor", constructors.length, 1);
         CHECK.due("a public one", Modifier.isPublic(constructors[0].getModifiers()));
         CHECK.due("a final class", Modifier.isFinal(BoxSearch.class.getModifiers()));
         for (Field f : BoxSearch.class.getDeclaredFields()) {
             CHECK.due(f.getName() + " is private", Modifier.isPrivate(f.getModifiers()));
+        }
+    }
+
+    private static String thrown(String name) {
+        switch (name) {
+            case "run": return "[class java.lang.IllegalArgumentException]";
+            case "element":
+                return "[class java.lang.IllegalArgumentException, class java.lang.IllegalStateException]";
+            default: return "[]";
         }
     }
 
