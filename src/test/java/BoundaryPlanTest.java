@@ -139,7 +139,9 @@ public final class BoundaryPlanTest {
         due("20 and 20", Check.with("b10 1 30/100;b5 1 30/50 0/50;").rule(), 0);
         due("20 and 20, the other way", Check.with("b5 1 30/50 0/50;b10 1 30/100;").rule(), 0);
         due("20 and 20 and 21", Check.with("b10 1 30/100;b5 1 30/50 0/50;b9 1 30/100;").rule(), 2);
-        due("61 thirds and 20", Check.with("b10 1 30/100;b9 1 151/30 0/70;").rule(), 1);
+        due("20 and 61 thirds", Check.with("b10 1 30/100;b2 1 27/30 0/70;").rule(), 1);
+        due("62 thirds and 21", Check.with("b1 1 24/30 0/70;b9 1 30/100;").rule(), 1);
+        due("62 thirds and 20", Check.with("b1 1 24/30 0/70;b10 1 30/100;").rule(), 0);
         // 62 by 3 and 124 by 6 are the same.
         due("62 thirds twice", Check.with("b1 1 24/30 0/70;b2 1 54/6 0/94;b1 1 24/30 0/70;").rule(), 0);
     }
@@ -232,6 +234,9 @@ public final class BoundaryPlanTest {
         BoxSearch w = Check.with("b1 0 50/10 0/90;b1 0 49/10 0/90;b1 0 48/10 0/90;b1 0 47/10 0/90;b1 0 46/10 0/90;");
         due("ruleMean() of five in a row", w.ruleMean(), 156472600000L);
         due("bestMean() of five in a row", w.bestMean(), 156472600000L);
+        BoxSearch v = Check.with("b1 1 200/1 50/99;");
+        due("ruleMean() with a chance of 1", v.ruleMean(), 200 + 50 * 99 - 100);
+        due("bestMean() with a chance of 1", v.bestMean(), 200 + 50 * 99 - 100);
         due("likely(4, 0): by 0.9 four times", w.likely(4, 0), 6561000000L);
         // Odd chances: 0.37 * 91 + 0.63 * 13 - 7, by 100.
         BoxSearch y = Check.with("b7 1 91/37 13/63;");
@@ -371,6 +376,11 @@ public final class BoundaryPlanTest {
         BoxSearch z = Check.with("b9 1 9/100;b9 1 9/100!;");
         due("a shut blind", z.likely(1, 1), 10000);
         due("is not opened", z.likely(1, 0), 0);
+        due("the first box, shut", Check.with("b9 1 9/100!;").likely(0, 1), 100);
+        // For nothing 0 is opened first; where it shows 4 or 0 the blind of 5 is taken.
+        BoxSearch v = Check.with("b0 1 9/50 4/30 0/20;b9 1 5/100!;");
+        due("a shut blind by two ways", v.likely(1, 1), 5000);
+        due("the other by one", v.likely(0, 1), 5000);
     }
 
     private static void likelyRefusals() {

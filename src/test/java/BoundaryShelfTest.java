@@ -202,6 +202,13 @@ public final class BoundaryShelfTest {
         for (int what = 0; what < 6; what++) {
             due("count(" + what + ") with all open", x.count(what), then[what]);
         }
+        BoxSearch z = Check.with("b1 1 9/50 8/50?1;b1 1 9/50 8/50?1;b1 1 9/50 8/50;");
+        z.peep(0, false);
+        z.open(2, 1);
+        due("count(4): peeped and not", z.count(4), 1);
+        due("count(3): open with another step", z.count(3), 1);
+        z.peep(1, true);
+        due("count(4): good and not", z.count(4), 2);
         BoxSearch y = Check.with("b1 1 9/25 8/25 7/25 6/25;b1 1 9/100;");
         due("count(2) of 4 and 1", y.count(2), 5);
         y.bell(0);

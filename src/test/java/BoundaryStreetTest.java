@@ -61,6 +61,11 @@ public final class BoundaryStreetTest {
         due("2 4 0 3 1", Check.street(x, 2, 4, 0, 3, 1), 87500000000L);
         due("4 3", Check.street(x, 4, 3), 70000000000L);
         due("bestStreet()", x.bestStreet(), 8 + 2 * 64 + 3 * 512 + 4 * 4096);
+        // Peeps have more places, but not on a street.
+        BoxSearch y = Check.with("b0 0 9/50 1/50?0;".repeat(5));
+        due("0 1 2 3 4 of peeps", Check.street(y, 0, 1, 2, 3, 4), 87500000000L);
+        due("4 3 2 1 0 of peeps", Check.street(y, 4, 3, 2, 1, 0), 87500000000L);
+        due("bestStreet() of peeps", y.bestStreet(), 8 + 2 * 64 + 3 * 512 + 4 * 4096);
     }
 
     /** A street of other boxes, or of fewer, told ahead must not be seen in one behind. */
@@ -69,8 +74,9 @@ public final class BoundaryStreetTest {
         BoxSearch x = new BoxSearch();
         x.image();
         for (int round = 0; round < 3; round++) {
-            Check.tell(x, "b0 0 99/50 98/50?1;b0 0 97/50 96/50!;b0 0 95/50 94/50>1 50 50;b0 0 93/50 92/50>2 50 50;");
+            Check.tell(x, "b0 0 99/50 98/50?1;b0 0 97/50 96/50!;b0 0 95/50 94/50>1 50 50;b0 0 93/50 0/50>2 50 50;");
             due("of four", Check.street(x, 3, 2, 1, 0), 9850000000L);
+            due("of one of four", Check.street(x, 3), 4650000000L);
             x.restore();
             due("of none", Check.street(x), 0);
             Check.tell(x, "b1 0 9/50 1/50;b1 0 8/100;");

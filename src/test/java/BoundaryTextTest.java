@@ -536,6 +536,8 @@ public final class BoundaryTextTest {
         }
         due("price(2, 0)", x.price(2, 0), -1);
         due("box(0, 1)", x.box(0, 1), 999);
+        due("number(0, 0) by it", x.number(0, 0), -909);
+        due("best() by it", x.best(), 11);
         due("box(1, 1)", x.box(1, 1), 6);
         due("price(0, 999) once more", x.price(0, 999), 999);
         // Each kind stays what it is.

@@ -44,7 +44,7 @@ public final class RefusalTest {
         CALLS.add(new Due(name, want, call));
     }
 
-    /** Box 0 is told of by 4, 1 is peeped at and good, 2 is a blind, 3 opens behind 2, 4 is open with its first step. */
+    /** 0 is told of by 4, 1 is peeped at and good, 2 is a blind, 3 opens behind 2, 4 is open with its first step. */
     private static BoxSearch rich() {
         BoxSearch x = Check.with("b10 1 90/50 20/50;b12 2 80/40 30/30 5/30?2;b20 1 60/50 10/50!;",
             "b5 1 99/20 0/80<2;b1 1 9/50 3/50>0 70 30;l30;");
