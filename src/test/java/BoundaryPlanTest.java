@@ -420,6 +420,13 @@ public final class BoundaryPlanTest {
         z.peep(0, true);
         due("1 by a mass of 1", z.edge(0), 1);
         due("above the bell", Check.with("b5 1 999/100;l0;").edge(0), 0);
+        // By the greatest mass; the others are worth nothing, and for nothing they stand behind the least.
+        BoxSearch w = Check.with("b5 1 999/100;", "b9 1 9/100;".repeat(4));
+        due("worth 999 of five", w.edge(0), 999);
+        due("another of five", w.edge(4), 0);
+        BoxSearch v = Check.with("b5 1 80/100;".repeat(5));
+        due("the least of five alike", v.edge(0), 6);
+        due("the last of five alike", v.edge(4), 5);
         BoxSearch x = Check.with("b0 1 998/50 997/50;b5 1 999/100;");
         x.open(0, 0);
         due("1 above what one has", x.edge(1), 1);

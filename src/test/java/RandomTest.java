@@ -100,6 +100,7 @@ public final class RandomTest {
         }
         spot = oracle.first();
         tellOfBoxes();
+        tellOfEdge(upTo(scale - 1));
         for (int turn = 0; turn < 3; turn++) {
             tellOfPlans();
             wander();
@@ -257,17 +258,21 @@ public final class RandomTest {
         int b = upTo(size - 1);
         due("setPrice " + b, x.setPrice(b), oracle.setPrice(b));
         for (b = 0; b < size; b++) {
-            int edge = x.edge(b);
-            if (spot.how[b] >= 3) {
-                due("edge " + b, edge, -3);
-            } else if (size <= 2) {
-                due("edge " + b, edge, oracle.edge(spot, b));
-            } else {
-                boolean right = edge >= 0 && !oracle.beginsAt(spot, b, edge)
-                    && (edge == 0 || oracle.beginsAt(spot, b, edge - 1))
-                    && (edge == 0 || oracle.beginsAt(spot, b, upTo(edge - 1)));
-                due("edge " + b + " = " + edge, right ? 1 : 0, 1);
-            }
+            tellOfEdge(b);
+        }
+    }
+
+    private void tellOfEdge(int b) {
+        int edge = x.edge(b);
+        if (spot.how[b] >= 3) {
+            due("edge " + b, edge, -3);
+        } else if (oracle.boxes.size() <= 2) {
+            due("edge " + b, edge, oracle.edge(spot, b));
+        } else {
+            boolean right = edge >= 0 && !oracle.beginsAt(spot, b, edge)
+                && (edge == 0 || oracle.beginsAt(spot, b, edge - 1))
+                && (edge == 0 || oracle.beginsAt(spot, b, upTo(edge - 1)));
+            due("edge " + b + " = " + edge, right ? 1 : 0, 1);
         }
     }
 }
