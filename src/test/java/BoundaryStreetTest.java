@@ -74,9 +74,10 @@ public final class BoundaryStreetTest {
         BoxSearch x = new BoxSearch();
         x.image();
         for (int round = 0; round < 3; round++) {
-            Check.tell(x, "b0 0 99/50 98/50?1;b0 0 97/50 96/50!;b0 0 95/50 94/50>1 50 50;b0 0 93/50 0/50>2 50 50;");
+            Check.tell(x, "b0 0 99/50 98/50?1;b0 0 97/50 0/50!;b0 0 95/50 94/50>1 50 50;b0 0 93/50 0/50>2 50 50;");
             due("of four", Check.street(x, 3, 2, 1, 0), 9850000000L);
-            due("of one of four", Check.street(x, 3), 4650000000L);
+            due("the last of four", Check.street(x, 3), 4650000000L);
+            due("the second of four", Check.street(x, 1), 4850000000L);
             x.restore();
             due("of none", Check.street(x), 0);
             Check.tell(x, "b1 0 9/50 1/50;b1 0 8/100;");
